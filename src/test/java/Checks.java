@@ -1,3 +1,6 @@
+import java.util.function.IntBinaryOperator;
+import java.util.function.IntUnaryOperator;
+
 /** What the tests share: answers that are due, exceptions that are due, and the state as a text. */
 final class Checks {
     private static int wrong = 0;
@@ -39,23 +42,26 @@ final class Checks {
 
     /** All that a tavern tells of its state without changing its line. */
     static String state(TavernStools x) {
+        return state(x::account, x::stoolOf, x::sitterOf);
+    }
+
+    static String state(IntUnaryOperator account, IntBinaryOperator stoolOf, IntBinaryOperator sitterOf) {
         StringBuilder all = new StringBuilder();
         for (int what = 0; what <= 12; what++) {
-            all.append(x.account(what)).append(' ');
+            all.append(account.applyAsInt(what)).append(' ');
         }
-        for (int stool = 0; stool < x.account(0); stool++) {
-            all.append('/');
-            for (int what = 0; what <= 5; what++) {
-                all.append(x.stoolOf(stool, what)).append(' ');
-            }
-        }
-        for (int sitter = 0; sitter < x.account(2); sitter++) {
-            all.append('*');
-            for (int what = 0; what <= 4; what++) {
-                all.append(x.sitterOf(sitter, what)).append(' ');
-            }
-        }
+        addRows(all, '/', account.applyAsInt(0), 5, stoolOf);
+        addRows(all, '*', account.applyAsInt(2), 4, sitterOf);
         return all.toString();
+    }
+
+    private static void addRows(StringBuilder all, char mark, int rows, int lastWhat, IntBinaryOperator of) {
+        for (int row = 0; row < rows; row++) {
+            all.append(mark);
+            for (int what = 0; what <= lastWhat; what++) {
+                all.append(of.applyAsInt(row, what)).append(' ');
+            }
+        }
     }
 
     /** The line as a text, of the length that the call that wrote it answered. */
