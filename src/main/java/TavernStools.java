@@ -1130,9 +1130,7 @@ public final class TavernStools {
                 scaled = scaled * 2.0;
                 exponent--;
             }
-            if (scaled < 1.0) {
-                return (int) (scaled * (double) FRACTION);
-            }
+            // The smallest floats have no leading one: there the difference is less than 0 and takes the exponent away.
             return exponent * FRACTION + (int) ((scaled - 1.0) * (double) FRACTION);
         }
 

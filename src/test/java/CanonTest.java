@@ -59,6 +59,7 @@ public final class CanonTest {
         Checks.due("10: one rank", false, x.clash(1, 2));
         Checks.due("10: with oneself", false, x.clash(0, 0));
         x.sit(0, 2);
+        bothWays(x, 1);
         Checks.due("10: one height", false, x.clash(0, 1));
         Checks.due("10: the lower rank higher", true, x.clash(2, 0));
         for (int none : new int[] {-1, 4, Integer.MIN_VALUE}) {
@@ -200,6 +201,14 @@ public final class CanonTest {
         best(row(new int[] {1, 2, 2}, new int[] {2, 1, 1}), 0, 1);
         best(row(new int[] {2, 2, 1}, new int[] {1, 1, 2}), 0, 2);
         best(row(new int[] {1, 1, 2, 2}, new int[] {2, 2, 1, 1}), 0, 2);
+        TavernStools cat = new TavernStools();
+        cat.stool(2, 0, 0, false);
+        cat.stool(1, 0, 0, true);
+        cat.cat(9);
+        cat.guest(1, 9);
+        cat.sit(0, 0);
+        cat.sit(1, 1);
+        Checks.thrown(cat, "14: a cat as the first one", NoSuchElementException.class, () -> cat.bestSwap(false));
         TavernStools even = row(new int[] {2, 2, 1, 3}, new int[] {5, 5, 5, 5});
         Checks.thrown(even, "14: no swap leaves fewer", NoSuchElementException.class, () -> even.bestSwap(false));
     }

@@ -258,7 +258,9 @@ public final class LinesAndTextsTest {
         x.restore();
         Checks.due("31: not restored", 6, x.refusal(false));
         x.sit(0, 0);
-        Checks.due("31: stays behind a change", 0, x.refusal(true));
+        Checks.runText(x, "n;u0");
+        wrongRun(x, "n;u0;", 5);
+        Checks.due("31: stays behind changes and wrong texts", 0, x.refusal(true));
         Checks.due("31: asking leaves it", 6, x.refusal(false));
     }
 

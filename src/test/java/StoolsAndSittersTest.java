@@ -94,6 +94,7 @@ public final class StoolsAndSittersTest {
             Checks.thrown(x, "5: no such sitter", IndexOutOfBoundsException.class, () -> x.sit(stool, 0));
         }
         Checks.due("5: from one stool to another", 1, x.sit(0, 1));
+        Checks.refused(x, "5: taken by whom", 2, 0, () -> x.sit(1, 1));
         Checks.due("5: the old stool is free", -1, x.stoolOf(0, 5));
         Checks.due("5: the new stool is taken", 0, x.stoolOf(1, 5));
     }
