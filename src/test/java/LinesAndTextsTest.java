@@ -162,7 +162,8 @@ public final class LinesAndTextsTest {
         }
     }
 
-    private static void refusedRun(TavernStools x, String text, int reason, int detail) {
+    /** The run of this text throws just this exception, empties the input and changes nothing else. */
+    private static void failedRun(TavernStools x, String text, Class<?> want, int position) {
         String before = Checks.state(x);
         Checks.append(x, text);
         String got = "nothing";
@@ -171,11 +172,19 @@ public final class LinesAndTextsTest {
         } catch (RuntimeException e) {
             got = e.getClass().getSimpleName();
         }
-        Checks.due("29: " + text, "UnsupportedOperationException", got);
+        Checks.due("29: " + text, want.getSimpleName(), got);
         Checks.due("29: nothing of it, and no input, " + text, before, Checks.state(x));
-        Checks.due("29: no error position, " + text, -1, x.errorPosition());
+        Checks.due("30: the error position, " + text, position, x.errorPosition());
+    }
+
+    private static void refusedRun(TavernStools x, String text, int reason, int detail) {
+        failedRun(x, text, UnsupportedOperationException.class, -1);
         Checks.due("29: reason, " + text, reason, x.refusal(false));
         Checks.due("29: detail, " + text, detail, x.refusal(true));
+    }
+
+    private static void wrongRun(TavernStools x, String text, int position) {
+        failedRun(x, text, IllegalArgumentException.class, position);
     }
 
     private static void runRefused() {
@@ -190,20 +199,6 @@ public final class LinesAndTextsTest {
         refusedRun(x, "u0;p0>1;b0-0", 8, 1);
         refusedRun(x, "k1;k1;k1;k1;k1;k1;k1;k1;k1;k1", 1, 12);
         refusedRun(x, "s1/00;s1/00;s1/00;s1/00;s1/00;s1/00;s1/00;s1/00;s1/00;s1/00", 1, 12);
-    }
-
-    private static void wrongRun(TavernStools x, String text, int position) {
-        String before = Checks.state(x);
-        Checks.append(x, text);
-        String got = "nothing";
-        try {
-            x.run();
-        } catch (RuntimeException e) {
-            got = e.getClass().getSimpleName();
-        }
-        Checks.due("29: " + text, "IllegalArgumentException", got);
-        Checks.due("29: nothing of it, and no input, " + text, before, Checks.state(x));
-        Checks.due("30: the error position, " + text, position, x.errorPosition());
     }
 
     private static void runWrong() {

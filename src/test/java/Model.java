@@ -12,8 +12,8 @@ import java.util.regex.Pattern;
  * compared on long runs of calls.
  */
 final class Model {
-    private static final String ORDER = "(?:s\\d\\d?/\\d\\d\\|?|g\\d\\*\\d{1,3}|k\\d{1,3}|p\\d\\d?>\\d\\d?|u\\d\\d?|c\\d\\d?"
-            + "|b\\d\\d?-\\d\\d?|n)";
+    private static final String ORDER = "(?:s\\d\\d?/\\d\\d\\|?|g\\d\\*\\d{1,3}|k\\d{1,3}|p\\d\\d?>\\d\\d?"
+            + "|u\\d\\d?|c\\d\\d?|b\\d\\d?-\\d\\d?|n)";
     private static final Pattern TEXT = Pattern.compile(ORDER + "(?:;" + ORDER + ")*");
 
     private static final class Stool {
@@ -436,8 +436,9 @@ final class Model {
         line = "";
         for (int stool = 0; stool < now.stools.size(); stool++) {
             int who = now.on(stool);
-            line += (now.stools.get(stool).bar ? "|" : "")
-                    + (who < 0 ? "." : "" + (now.sitters.get(who).rank == 0 ? "ABCDEFGHIJKL" : "abcdefghijkl").charAt(who));
+            boolean isCat = who >= 0 && now.sitters.get(who).rank == 0;
+            line += now.stools.get(stool).bar ? "|" : "";
+            line += who < 0 ? '.' : (isCat ? "ABCDEFGHIJKL" : "abcdefghijkl").charAt(who);
         }
         return line.length();
     }
