@@ -165,6 +165,9 @@ public final class BoundsTest {
 
     private static void bits() {
         range("19: bits from 0 to 1232348159", 0, MOST_BITS, WRONG, BoundsTest::some, (x, n) -> x.plusTilt(n, 0));
+        for (int bits : new int[] {0x7f800000, 0x7fc00000, 0x7f7fffff, 0xff800000, -2147483647}) {
+            Twins.thrown("19: " + bits, WRONG, BoundsTest::some, x -> x.plusTilt(bits, 0));
+        }
         TavernStools x = new TavernStools();
         x.stool(40, 0, 1, false);
         x.stool(1, 0, 9, false);

@@ -19,6 +19,10 @@ public final class CanonEdgesTest {
         swapMustLeaveFewer();
         bestOfSeveral();
         bestAmongTheLast();
+        standersDoNotSwap();
+        catsDoNotSwapToTheBar();
+        moreSittersThanStools();
+        moreStoolsThanSitters();
         tiltOrder();
         rankOrder();
         Checks.end();
@@ -293,6 +297,88 @@ public final class CanonEdgesTest {
         best("14: the last two", x, 10, 11);
         Checks.due("13: none is left", 0, x.swap(10, 11));
         none("14: none is left", x);
+    }
+
+    /** A guest at the bar below a cat: they clash and cannot swap; one who stands would do in the place of either. */
+    private static TavernStools stuck(int stander) {
+        TavernStools x = new TavernStools();
+        x.stool(1, 0, 0, true);
+        x.stool(2, 0, 0, false);
+        for (int sitter = 0; sitter < 3; sitter++) {
+            come(x, sitter == stander ? 1 : sitter == (stander + 1) % 3 ? 0 : 5, 10);
+        }
+        x.sit((stander + 1) % 3, 1);
+        x.sit((stander + 2) % 3, 0);
+        return x;
+    }
+
+    private static void standersDoNotSwap() {
+        for (int stander = 0; stander < 3; stander++) {
+            TavernStools x = stuck(stander);
+            Checks.due("14: they clash", 1, x.clashes(false));
+            none("14: one who stands, " + stander, x);
+        }
+    }
+
+    private static void catsDoNotSwapToTheBar() {
+        for (int cat = 0; cat < 2; cat++) {
+            TavernStools x = new TavernStools();
+            x.stool(1, 0, 0, true);
+            x.stool(2, 0, 0, false);
+            come(x, cat == 0 ? 0 : 1, 1);
+            come(x, cat == 0 ? 1 : 0, 1);
+            x.sit(cat, 1);
+            x.sit(1 - cat, 0);
+            Checks.due("14: they clash", 1, x.clashes(true));
+            none("14: the cat may not sit there, " + cat, x);
+        }
+    }
+
+    private static void moreSittersThanStools() {
+        TavernStools x = row(heights(1, 2), 0);
+        x.getUp(0);
+        for (int rank : new int[] {9, 8, 7, 3, 2}) {
+            x.guest(rank, 50);
+        }
+        Checks.due("5: alone", 0, x.sit(4, 0));
+        Checks.due("5: clashes with one of a lower number", 1, x.sit(5, 1));
+        Checks.due("8: so with one of a higher number", 1, x.sitterOf(4, 3));
+        Checks.due("9: pair by pair", 1, x.clashes(false));
+        Checks.due("9: stool by stool", 1, x.clashes(true));
+        Checks.due("4 for those who sit", 2, x.account(4));
+        best("14: the last two", x, 4, 5);
+        Checks.due("12: both", 2, x.wouldMove());
+        Checks.due("11: both", 2, x.brawl(0, 1));
+        Checks.due("25: seats", "fe", seats(x));
+        Checks.due("24: the last one by rank", 0, x.ranked(5));
+    }
+
+    private static void moreStoolsThanSitters() {
+        TavernStools x = new TavernStools();
+        for (int number = 0; number < 6; number++) {
+            x.stool(6 - number, number, number, false);
+        }
+        x.guest(1, 10);
+        x.guest(9, 10);
+        x.sit(0, 4);
+        x.sit(1, 5);
+        Checks.due("9: pair by pair", 1, x.clashes(false));
+        Checks.due("9: stool by stool", 1, x.clashes(true));
+        Checks.due("4 for those who sit", 2, x.account(4));
+        Checks.due("34: the last two stools", 1.5, x.meanHeight());
+        float noise = 0.0f + x.noiseOf(0) + x.noiseOf(1);
+        Checks.due("21: the last two stools", Float.floatToIntBits(noise), x.noiseBits());
+        Checks.due("22: both wobble", 0, x.night());
+        Checks.due("22: the last one squeaks", 6, x.stoolOf(5, 1));
+        Checks.due("11: nobody sits there", "UnsupportedOperationException", Twins.outcome(x, y -> y.brawl(0, 3)));
+        Checks.due("8: how many stools are taken anywhere", "8 2", Twins.reasonOf(x));
+        x.getUp(0);
+        Checks.due("4 for those who sit", 1, x.account(4));
+        Twins.outcome(x, y -> y.brawl(4, 4));
+        Checks.due("8: the last one is taken", "8 1", Twins.reasonOf(x));
+        Checks.due("11: all stools", 1, x.brawl(0, 5));
+        Checks.due("25: seats", "b.....", seats(x));
+        Checks.due("23: the last one by tilt", 0, x.tilted(5));
     }
 
     private static void tiltOrder() {

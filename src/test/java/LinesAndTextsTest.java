@@ -1,4 +1,5 @@
 import java.util.NoSuchElementException;
+import java.util.function.Consumer;
 
 /** Promises 25 to 37. */
 public final class LinesAndTextsTest {
@@ -69,9 +70,6 @@ public final class LinesAndTextsTest {
         x.coin(3);
         Checks.due("26: as told", "3^23~2'''oo", Checks.lineOf(x, x.stoolLine(3)));
         Checks.due("26: two digits", "11^31~4'''", Checks.lineOf(x, x.stoolLine(11)));
-        for (int none : new int[] {-1, 12, Integer.MAX_VALUE}) {
-            Checks.thrown(x, "26: no such stool", IndexOutOfBoundsException.class, () -> x.stoolLine(none));
-        }
         Checks.due("26: the line before stays then", "11^31~4'''", Checks.lineOf(x, 10));
         TavernStools plain = tavern();
         Checks.due("26: one digit, no squeak, no coin", "2^8~0", Checks.lineOf(plain, plain.stoolLine(2)));
@@ -110,9 +108,6 @@ public final class LinesAndTextsTest {
         x.undo();
         x.getUp(x.sit(0, 0));
         Checks.due("27: the line stays", ".|..", Checks.lineOf(x, 4));
-        for (int none : new int[] {-1, 4, 5, 1000, Integer.MIN_VALUE, Integer.MAX_VALUE}) {
-            Checks.thrown(x, "27: no such index", IndexOutOfBoundsException.class, () -> x.character(none));
-        }
     }
 
     private static void append() {
@@ -187,32 +182,33 @@ public final class LinesAndTextsTest {
         failedRun(x, text, IllegalArgumentException.class, position);
     }
 
-    private static void runRefused() {
+    private static TavernStools seated() {
         TavernStools x = tavern();
         x.sit(0, 0);
-        refusedRun(x, "n;p1>1", 3, 1);
-        refusedRun(x, "p2>0;p9>9", 2, 0);
-        refusedRun(x, "p0>0", 4, 0);
-        refusedRun(x, "u1", 4, 1);
-        refusedRun(x, "c2", 6, 0);
-        refusedRun(x, "c1;c1;c1;c1;c1;c1;c1", 5, 6);
-        refusedRun(x, "u0;p0>1;b0-0", 8, 1);
-        refusedRun(x, "k1;k1;k1;k1;k1;k1;k1;k1;k1;k1", 1, 12);
-        refusedRun(x, "s1/00;s1/00;s1/00;s1/00;s1/00;s1/00;s1/00;s1/00;s1/00;s1/00", 1, 12);
+        return x;
+    }
+
+    private static void runRefused() {
+        refusedRun(seated(), "n;p1>1", 3, 1);
+        refusedRun(seated(), "p2>0;p9>9", 2, 0);
+        refusedRun(seated(), "p0>0", 4, 0);
+        refusedRun(seated(), "u1", 4, 1);
+        refusedRun(seated(), "c2", 6, 0);
+        refusedRun(seated(), "c1;c1;c1;c1;c1;c1;c1", 5, 6);
+        refusedRun(seated(), "u0;p0>1;b0-0", 8, 1);
+        refusedRun(seated(), "k1;k1;k1;k1;k1;k1;k1;k1;k1;k1", 1, 12);
+        refusedRun(seated(), "s1/00;s1/00;s1/00;s1/00;s1/00;s1/00;s1/00;s1/00;s1/00;s1/00", 1, 12);
     }
 
     private static void runWrong() {
-        TavernStools x = tavern();
         String[] texts = {"s0/00", "s41/00", "n;n;s00/99|", "g0*1", "g1*0", "g1*201", "k0", "k201", "k999", "p3>0",
             "p0>3", "p99>99", "u3", "c3", "b3-0", "b0-3", "b1-0", "k5;n;u4;p1>1"};
         for (String text : texts) {
-            wrongRun(x, text, -1);
+            wrongRun(tavern(), text, -1);
         }
-        Checks.thrown(x, "31: nothing was refused", NoSuchElementException.class, () -> x.refusal(false));
-        x.sit(0, 0);
-        refusedRun(x, "p0>0;k0", 4, 0);
-        wrongRun(x, "k0;p0>0", -1);
-        wrongRun(x, "k5;p0>0;", 8);
+        refusedRun(seated(), "p0>0;k0", 4, 0);
+        wrongRun(seated(), "k0;p0>0", -1);
+        wrongRun(seated(), "k5;p0>0;", 8);
     }
 
     private static void errorPositions() {
@@ -243,7 +239,6 @@ public final class LinesAndTextsTest {
         TavernStools x = tavern();
         Checks.thrown(x, "31: nothing was refused", NoSuchElementException.class, () -> x.refusal(true));
         Checks.thrown(x, "31: no refusal", IndexOutOfBoundsException.class, () -> x.coin(9));
-        Checks.thrown(x, "31: nothing yet", NoSuchElementException.class, () -> x.refusal(false));
         Checks.refused(x, "31: refused", 4, 2, () -> x.getUp(2));
         x.save();
         x.coin(0);
@@ -254,7 +249,8 @@ public final class LinesAndTextsTest {
         Checks.due("31: not restored", 6, x.refusal(false));
         x.sit(0, 0);
         Checks.runText(x, "n;u0");
-        wrongRun(x, "n;u0;", 5);
+        Checks.append(x, "n;u0;");
+        Twins.outcome(x, TavernStools::run);
         Checks.due("31: stays behind changes and wrong texts", 0, x.refusal(true));
         Checks.due("31: asking leaves it", 6, x.refusal(false));
     }
@@ -279,9 +275,6 @@ public final class LinesAndTextsTest {
         x.night();
         x.undo();
         Checks.due("32: coins that nights brought, undone", 0, x.account(9));
-        for (int what : new int[] {-1, 13, Integer.MIN_VALUE, Integer.MAX_VALUE}) {
-            Checks.thrown(x, "32: no such account", IllegalArgumentException.class, () -> x.account(what));
-        }
     }
 
     private static void isWell() {
@@ -313,30 +306,28 @@ public final class LinesAndTextsTest {
     private static void undo() {
         TavernStools x = new TavernStools();
         Checks.thrown(x, "35: no change", IllegalStateException.class, () -> x.undo());
-        String[] states = new String[11];
         for (int change = 0; change < 11; change++) {
-            states[change] = stateWithoutUndo(x);
             x.guest(1, 1 + change);
         }
-        Checks.refused(x, "35: a refusal is no change", 4, 0, () -> x.getUp(0));
-        Checks.thrown(x, "35: a wrong call is no change", IllegalArgumentException.class, () -> x.guest(0, 0));
+        Twins.outcome(x, y -> y.getUp(0));
+        Twins.outcome(x, y -> y.guest(0, 0));
         for (int left = 7; left >= 0; left--) {
-            Checks.due("35: undo", left, x.undo());
-            Checks.due("35: as it was", states[left + 3], stateWithoutUndo(x));
+            Checks.due("35: undo, a refusal or a wrong call is no change", left, x.undo());
+            Checks.due("35: as it was", left + 3, x.account(2));
         }
         Checks.thrown(x, "35: no ninth", IllegalStateException.class, () -> x.undo());
         Checks.due("35: anew", 3, x.guest(1, 1));
         Checks.due("35: undo anew", 0, x.undo());
     }
 
-    private static void undoes(TavernStools x, String change, Runnable act) {
+    private static void undoes(TavernStools x, String change, Consumer<TavernStools> act) {
         String before = stateWithoutUndo(x);
-        act.run();
+        act.accept(x);
         Checks.due("35: a change by " + change, false, before.equals(stateWithoutUndo(x)));
         x.undo();
         Checks.due("35: undone " + change, before, stateWithoutUndo(x));
         x.save();
-        act.run();
+        act.accept(x);
         x.restore();
         Checks.due("37: restored " + change, before, stateWithoutUndo(x));
     }
@@ -346,22 +337,27 @@ public final class LinesAndTextsTest {
         return Checks.state(x).replaceFirst("^((\\d+ ){12})\\d+ ", "$1");
     }
 
-    private static void undoOfEachChange() {
+    private static TavernStools worn() {
         TavernStools x = tavern();
         x.sit(0, 1);
         x.sit(1, 0);
         x.coin(0);
-        undoes(x, "stool", () -> x.stool(1, 2, 3, true));
-        undoes(x, "guest", () -> x.guest(1, 2));
-        undoes(x, "cat", () -> x.cat(3));
-        undoes(x, "sit", () -> x.sit(2, 2));
-        undoes(x, "getUp", () -> x.getUp(1));
-        undoes(x, "coin", () -> x.coin(1));
-        undoes(x, "takeCoin", () -> x.takeCoin(0));
-        undoes(x, "brawl", () -> x.brawl(0, 2));
-        undoes(x, "night", () -> x.night());
-        x.sit(2, 2);
-        undoes(x, "swap", () -> x.swap(0, 2));
+        return x;
+    }
+
+    private static void undoOfEachChange() {
+        undoes(worn(), "stool", x -> x.stool(1, 2, 3, true));
+        undoes(worn(), "guest", x -> x.guest(1, 2));
+        undoes(worn(), "cat", x -> x.cat(3));
+        undoes(worn(), "sit", x -> x.sit(2, 2));
+        undoes(worn(), "getUp", x -> x.getUp(1));
+        undoes(worn(), "coin", x -> x.coin(1));
+        undoes(worn(), "takeCoin", x -> x.takeCoin(0));
+        undoes(worn(), "brawl", x -> x.brawl(0, 2));
+        undoes(worn(), "night", x -> x.night());
+        TavernStools three = worn();
+        three.sit(2, 2);
+        undoes(three, "swap", x -> x.swap(0, 2));
     }
 
     private static void saveAndRestore() {

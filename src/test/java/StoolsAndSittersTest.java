@@ -24,11 +24,6 @@ public final class StoolsAndSittersTest {
         TavernStools x = new TavernStools();
         Checks.due("2: stool", 0, x.stool(1, 0, 0, false));
         Checks.due("2: stool", 1, x.stool(40, 9, 9, true));
-        int[][] wrong = {{0, 0, 0}, {41, 0, 0}, {1, -1, 0}, {1, 10, 0}, {1, 0, -1}, {1, 0, 10},
-            {Integer.MIN_VALUE, 0, 0}, {1, Integer.MAX_VALUE, 0}};
-        for (int[] w : wrong) {
-            Checks.thrown(x, "2: stool wrong", IllegalArgumentException.class, () -> x.stool(w[0], w[1], w[2], true));
-        }
         for (int number = 2; number < 12; number++) {
             Checks.due("2: stool", number, x.stool(number, 1, 1, false));
         }
@@ -41,10 +36,6 @@ public final class StoolsAndSittersTest {
         TavernStools x = new TavernStools();
         Checks.due("3: guest", 0, x.guest(1, 1));
         Checks.due("3: guest", 1, x.guest(9, 200));
-        int[][] wrong = {{0, 1}, {10, 1}, {1, 0}, {1, 201}, {-1, 1}, {1, -1}, {1, Integer.MIN_VALUE}};
-        for (int[] w : wrong) {
-            Checks.thrown(x, "3: guest wrong", IllegalArgumentException.class, () -> x.guest(w[0], w[1]));
-        }
         for (int number = 2; number < 12; number++) {
             Checks.due("3: guest", number, x.guest(5, 70));
         }
@@ -57,9 +48,6 @@ public final class StoolsAndSittersTest {
         Checks.due("4: cat", 0, x.cat(1));
         Checks.due("4: guests and cats are numbered alike", 1, x.guest(4, 60));
         Checks.due("4: cat", 2, x.cat(200));
-        for (int weight : new int[] {0, 201, -1, Integer.MAX_VALUE}) {
-            Checks.thrown(x, "4: cat wrong", IllegalArgumentException.class, () -> x.cat(weight));
-        }
         for (int number = 3; number < 12; number++) {
             x.cat(3);
         }
@@ -89,10 +77,6 @@ public final class StoolsAndSittersTest {
         Checks.refused(x, "5: taken ahead of the bar", 2, 1, () -> x.sit(2, 1));
         x.getUp(1);
         Checks.refused(x, "5: no cat at the bar", 3, 1, () -> x.sit(2, 1));
-        for (int stool : new int[] {-1, 3, 12, Integer.MIN_VALUE, Integer.MAX_VALUE}) {
-            Checks.thrown(x, "5: no such stool", IndexOutOfBoundsException.class, () -> x.sit(0, stool));
-            Checks.thrown(x, "5: no such sitter", IndexOutOfBoundsException.class, () -> x.sit(stool, 0));
-        }
         Checks.due("5: from one stool to another", 1, x.sit(0, 1));
         Checks.refused(x, "5: taken by whom", 2, 0, () -> x.sit(1, 1));
         Checks.due("5: the old stool is free", -1, x.stoolOf(0, 5));
@@ -107,9 +91,6 @@ public final class StoolsAndSittersTest {
         Checks.due("6: stands then", -1, x.sitterOf(2, 2));
         Checks.due("6: the stool is free", -1, x.stoolOf(2, 5));
         Checks.refused(x, "6: stands again", 4, 2, () -> x.getUp(2));
-        for (int sitter : new int[] {-1, 3, Integer.MAX_VALUE}) {
-            Checks.thrown(x, "6: no such sitter", IndexOutOfBoundsException.class, () -> x.getUp(sitter));
-        }
     }
 
     private static void stoolOf() {
@@ -122,12 +103,6 @@ public final class StoolsAndSittersTest {
         }
         Checks.due("7: not at the bar", 0, x.stoolOf(2, 3));
         Checks.due("7: free", -1, x.stoolOf(2, 5));
-        for (int what : new int[] {-1, 6, Integer.MIN_VALUE, Integer.MAX_VALUE}) {
-            Checks.thrown(x, "7: no such what", IllegalArgumentException.class, () -> x.stoolOf(0, what));
-        }
-        for (int stool : new int[] {-1, 3, Integer.MAX_VALUE}) {
-            Checks.thrown(x, "7: no such stool", IndexOutOfBoundsException.class, () -> x.stoolOf(stool, 0));
-        }
         Checks.thrown(x, "7: the stool first", IndexOutOfBoundsException.class, () -> x.stoolOf(3, 6));
     }
 
@@ -140,12 +115,6 @@ public final class StoolsAndSittersTest {
         for (int what = 0; what <= 4; what++) {
             Checks.due("8: sitterOf(1, " + what + ")", guest[what], x.sitterOf(1, what));
             Checks.due("8: sitterOf(2, " + what + ")", cat[what], x.sitterOf(2, what));
-        }
-        for (int what : new int[] {-1, 5, Integer.MIN_VALUE, Integer.MAX_VALUE}) {
-            Checks.thrown(x, "8: no such what", IllegalArgumentException.class, () -> x.sitterOf(0, what));
-        }
-        for (int sitter : new int[] {-1, 3, Integer.MAX_VALUE}) {
-            Checks.thrown(x, "8: no such sitter", IndexOutOfBoundsException.class, () -> x.sitterOf(sitter, 0));
         }
         Checks.thrown(x, "8: the sitter first", IndexOutOfBoundsException.class, () -> x.sitterOf(3, 5));
     }
