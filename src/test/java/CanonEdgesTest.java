@@ -318,6 +318,12 @@ public final class CanonEdgesTest {
             Checks.due("14: they clash", 1, x.clashes(false));
             none("14: one who stands, " + stander, x);
         }
+        TavernStools first = row(heights(1, 3, 2), 1, 3, 5);
+        first.getUp(0);
+        best("14: not with the first one, who stands", first, 1, 2);
+        TavernStools second = row(heights(1, 3, 2), 5, 1, 3);
+        second.getUp(1);
+        best("14: not with the second one, who stands", second, 0, 2);
     }
 
     private static void catsDoNotSwapToTheBar() {

@@ -70,8 +70,12 @@ public final class LinesAndTextsTest {
         x.coin(3);
         Checks.due("26: as told", "3^23~2'''oo", Checks.lineOf(x, x.stoolLine(3)));
         Checks.due("26: two digits", "11^31~4'''", Checks.lineOf(x, x.stoolLine(11)));
+        Twins.outcome(x, y -> y.stoolLine(12));
         Checks.due("26: the line before stays then", "11^31~4'''", Checks.lineOf(x, 10));
         TavernStools plain = tavern();
+        plain.stool(20, 3, 3, true);
+        plain.coin(3);
+        Checks.due("26: as the document tells", "3^20~2'''o", Checks.lineOf(plain, plain.stoolLine(3)));
         Checks.due("26: one digit, no squeak, no coin", "2^8~0", Checks.lineOf(plain, plain.stoolLine(2)));
         Checks.due("26: squeaks", "1^30~9'''''''''", Checks.lineOf(plain, plain.stoolLine(1)));
     }
