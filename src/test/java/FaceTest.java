@@ -8,58 +8,69 @@ import java.nio.file.Path;
 import java.util.ArrayList;
 import java.util.Arrays;
 import java.util.List;
+import java.util.Set;
 import java.util.TreeSet;
 import java.util.regex.Matcher;
 import java.util.regex.Pattern;
 
 /** The face of the class, and of LANGUAGE.md what a look at the class and its text can tell. */
 public final class FaceTest {
-    private static final String[] FACE = {"int stool(int,int,int,boolean)", "int guest(int,int)", "int cat(int)",
-        "int sit(int,int)", "int getUp(int)", "int stoolOf(int,int)", "int sitterOf(int,int)", "int clashes(boolean)",
-        "boolean clash(int,int)", "int brawl(int,int)", "int wouldMove()", "int swap(int,int)",
-        "int bestSwap(boolean)", "int coin(int)", "int takeCoin(int)", "float tilt(int)", "int tiltBits(int)",
-        "int plusTilt(int,int)", "float noiseOf(int)", "int noiseBits()", "int night()", "int tilted(int)",
-        "int ranked(int)", "int line()", "int stoolLine(int)", "char character(int)", "int append(char)",
-        "int run()", "int errorPosition()", "int refusal(boolean)", "int account(int)", "boolean isWell()",
-        "double meanHeight()", "int undo()", "int save()", "int restore()"};
+    private static final Pattern METHOD = Pattern.compile("    public (\\w+) (\\w+)\\((.*?)\\)(?: throws (.*))?;");
     private static final String[] FORBIDDEN = {"->", "::", "\\bFloat\\b", "\\bDouble\\b", "\\bfinally\\b",
         "\\bcatch\\b", "\\bsynchronized\\b", "\\bassert\\b", "\\bvar\\b", "Exact\\(", "\" *\\+", "\\+ *\"",
         "\\bstatic *\\{", "\\bpackage\\b", "\\bprotected\\b", "[^\\n\\x20-\\x7e]"};
 
     public static void main(String[] args) throws IOException {
-        members();
-        classesInside();
+        Set<String> names = members(Files.readAllLines(Path.of("../shared/DOC.md")));
+        classesInside(names);
         Path source = Path.of("src/main/java/TavernStools.java");
         text(Files.readString(source));
         methodsAreShort(Files.readAllLines(source));
         Checks.end();
     }
 
-    private static void members() {
+    /** The methods are those of the document, with what each may throw; answers their names. */
+    private static Set<String> members(List<String> document) {
         Class<?> face = TavernStools.class;
         Checks.due("public and final", Modifier.PUBLIC | Modifier.FINAL, face.getModifiers());
+        Set<String> names = new TreeSet<>();
+        List<String> want = new ArrayList<>();
+        for (String line : document) {
+            Matcher matcher = METHOD.matcher(line);
+            if (matcher.matches()) {
+                names.add(matcher.group(2));
+                want.add(matcher.group(1) + " " + matcher.group(2) + "(" + matcher.group(3).replaceAll(" \\w+(?=,|$)", "")
+                        + ") throws " + (matcher.group(4) == null ? "" : matcher.group(4)));
+            }
+        }
         List<String> open = new ArrayList<>();
         for (Method method : face.getDeclaredMethods()) {
             if (!Modifier.isPrivate(method.getModifiers())) {
                 Checks.due(method + " is public", Modifier.PUBLIC, method.getModifiers());
-                StringBuilder types = new StringBuilder();
-                for (Class<?> type : method.getParameterTypes()) {
-                    types.append(types.length() == 0 ? "" : ",").append(type);
-                }
-                open.add(method.getReturnType() + " " + method.getName() + "(" + types + ")");
+                open.add(method.getReturnType() + " " + method.getName() + "(" + simple(method.getParameterTypes())
+                        + ") throws " + simple(method.getExceptionTypes()));
             }
         }
-        Checks.due("the face", new TreeSet<>(Arrays.asList(FACE)), new TreeSet<>(open));
-        Checks.due("nothing twice", FACE.length, open.size());
+        Checks.due("36 methods", 36, open.size());
+        Checks.due("the face", new TreeSet<>(want), new TreeSet<>(open));
         Constructor<?>[] constructors = face.getDeclaredConstructors();
         Checks.due("one constructor", 1, constructors.length);
         Checks.due("a public constructor", Modifier.PUBLIC, constructors[0].getModifiers());
         for (Field field : face.getDeclaredFields()) {
             Checks.due(field + " is private", true, Modifier.isPrivate(field.getModifiers()));
         }
+        return names;
     }
 
-    private static void classesInside() {
+    private static String simple(Class<?>[] types) {
+        List<String> all = new ArrayList<>();
+        for (Class<?> type : types) {
+            all.add(type.getSimpleName());
+        }
+        return String.join(", ", all);
+    }
+
+    private static void classesInside(Set<String> names) {
         List<Class<?>> all = new ArrayList<>(Arrays.asList(TavernStools.class.getDeclaredClasses()));
         Checks.due("few classes", true, all.size() < 12);
         for (Class<?> inside : all) {
@@ -75,15 +86,11 @@ public final class FaceTest {
                 Checks.due(field + " is final if static", true, !isStatic || Modifier.isFinal(field.getModifiers()));
             }
             Checks.due(one + " has few fields", true, fields <= 20);
-            methodsOf(one);
+            methodsOf(one, names);
         }
     }
 
-    private static void methodsOf(Class<?> one) {
-        List<String> names = new ArrayList<>();
-        for (String method : FACE) {
-            names.add(method.replaceAll("^\\w+ |\\(.*", ""));
-        }
+    private static void methodsOf(Class<?> one, Set<String> names) {
         for (Method method : one.getDeclaredMethods()) {
             Checks.due(method + " has few parameters", true, method.getParameterCount() <= 7);
             boolean isFace = Modifier.isPublic(method.getModifiers());
